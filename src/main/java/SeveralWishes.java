@@ -230,6 +230,7 @@ public final class SeveralWishes {
         if (!isWish(w) || what < 0 || what > 3 || figure.corners == 0) {
             return NO_SUCH_VALUE;
         }
+        figure.judge();
         int i = what < 2 ? figure.points.firstWithMost(told.wishTakes, AXES * w) : figure.firstWithLeast(w);
         if (i < 0) {
             return NO_SUCH_VALUE;
@@ -892,7 +893,8 @@ public final class SeveralWishes {
             if (k < keeps) {
                 return keepTakes[AXES * k + q];
             }
-            return (k - keeps) % Math.max(1, quantities) == q ? 1 : 0;
+            int of = k < keeps + quantities ? k - keeps : k - keeps - quantities;
+            return of == q ? 1 : 0;
         }
 
         int number(int k) {
@@ -971,17 +973,17 @@ public final class SeveralWishes {
             }
         }
 
-        boolean isAtDigit() {
-            return here() >= '0' && here() <= '9';
+        boolean isDigit(int sign) {
+            return sign >= '0' && sign <= '9';
         }
 
         /** A number of one to so many digits. */
         int readNumber(int most) {
-            if (!isAtDigit()) {
+            if (!isDigit(here())) {
                 fail(1, at);
             }
             int number = 0;
-            for (int digits = 0; digits < most && isAtDigit(); digits++) {
+            for (int digits = 0; digits < most && isDigit(here()); digits++) {
                 number = 10 * number + here() - '0';
                 at++;
             }
@@ -990,7 +992,7 @@ public final class SeveralWishes {
 
         /** Behind a number that may have no more digits. */
         void refuseDigit() {
-            if (isAtDigit()) {
+            if (isDigit(here())) {
                 fail(2, at);
             }
         }
@@ -1373,7 +1375,7 @@ public final class SeveralWishes {
                 text.expect(']');
                 return value;
             }
-            if (text.isAtDigit()) {
+            if (text.isDigit(text.here())) {
                 int number = text.readNumber(DIGITS);
                 text.refuseDigit();
                 return number;
@@ -1730,7 +1732,7 @@ public final class SeveralWishes {
         private boolean beats(int j, int i) {
             boolean isMore = false;
             for (int w = 0; w < problem.wishes; w++) {
-                long more = lead(j, i, w);
+                long more = points.change(i, j, problem.wishTakes, AXES * w);
                 if (more < 0) {
                     return false;
                 }
@@ -1755,7 +1757,6 @@ public final class SeveralWishes {
 
         /** The first EFFICIENT CORNER with the least of a WISH. */
         int firstWithLeast(int w) {
-            judge();
             int first = NONE;
             for (int i = 0; i < corners; i++) {
                 if (isEfficient(i) && (first < 0 || lead(i, first, w) < 0)) {

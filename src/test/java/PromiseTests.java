@@ -7,6 +7,8 @@ public final class PromiseTests {
     private static final String KITE = "of:2;wish:x+2y;least:x;keep:2x+3y<12;keep:3x+2y<12";
     /** CORNERS (0,0,0) (0,0,9) (0,9,0) (9,0,0). */
     private static final String WEDGE = "of:3;wish:x;wish:y;wish:z;keep:x+y+z<9";
+    /** CORNERS (0,0,0) (0,0,9) (0,9,0) (9,0,0) with WISHES 0 0, 18 18, 0 27, 27 0. */
+    private static final String BOW = "of:3;wish:3x+2z;wish:3y+2z;keep:x+y+z<9";
     private static final String EMPTY = "of:2;wish:x;wish:y;keep:x>5;keep:x<4";
     private static final int MANY = Integer.MAX_VALUE;
     private static final int FEW = Integer.MIN_VALUE;
@@ -286,9 +288,15 @@ public final class PromiseTests {
             d.due("11: no such two", d.x.edge(0, no), -1);
             d.due("11: no such two", d.x.edge(no, 0), -1);
         }
-        // Both ends are efficient, what is between them is not: the ideal of x + 2y lies across.
-        tell("of:2;wish:x-2y;wish:y-2x");
-        d.due("11: both efficient and the edge between", d.x.edge(0, 1), 2);
+        // Corners 1, 2, 3 are efficient; between 2 and 3 there is less of both wishes than at 1.
+        tell(BOW);
+        d.due("11: both ends efficient, the edge not", d.x.edge(2, 3), 1);
+        d.due("11: by the third one", d.x.edge(1, 2), 2);
+        d.due("10: efficient edges", d.x.cornerIs(2, 5), 1);
+        d.due("12: pieces", d.x.all(4), 1);
+        d.due("28: the way round", d.x.reach(2, 3, true), 2);
+        d.due("28: straight on", d.x.reach(2, 3, false), 1);
+        d.due("30: between", d.x.along(2, 3, 5), 1);
         tell("of:3;wish:x;wish:y;wish:z;keep:x+y+2z<9;keep:2x+y+z<9");
         for (int i = 0; i < d.x.all(0); i++) {
             for (int j = 0; j < d.x.all(0); j++) {
@@ -355,6 +363,16 @@ public final class PromiseTests {
         d.due("23: two turns", d.x.turn(200), 2);
         d.due("23: rising", d.x.turn(0), d.x.turn(1), 1, 7);
         d.due("23: rising", d.x.turn(2), d.x.turn(3), 3, 5);
+        tell("of:3;wish:3x-y-z;wish:3z-x-y;keep:2x+z<12;keep:x+2z<12;keep:x+z<7");
+        for (int t = 0; t + 2 < 2 * d.x.turn(200); t += 2) {
+            d.due("23: rising", d.x.turn(t) * d.x.turn(t + 3) < d.x.turn(t + 2) * d.x.turn(t + 1) ? 1 : 0, 1);
+        }
+        d.due("23: three turns", d.x.turn(200), 3);
+        tell("of:2;least:x;wish:y;keep:y-3x<1;keep:y-x<3;keep:2y-x<8");
+        d.due("23: three turns, met the other way round", d.x.turn(200), 3);
+        d.due("23: the least first", d.x.turn(0), d.x.turn(1), 1, 3);
+        d.due("23: then", d.x.turn(2), d.x.turn(3), 1, 2);
+        d.due("23: the greatest last", d.x.turn(4), d.x.turn(5), 3, 4);
         tell("of:2;wish:x;wish:2x");
         d.due("23: like wishes are as one", d.x.turn(200), 0);
         d.due("13: best by every share", d.x.weights(3, 2), 1);
@@ -673,6 +691,10 @@ public final class PromiseTests {
         d.due("32: area", d.x.area(0), d.x.area(1), 92, 1);
         tell(KITE);
         d.due("32: a fraction", d.x.area(0), d.x.area(1), 96, 5);
+        tell("of:2;keep:x>3;keep:y>2;box:x<7;box:y<4");
+        d.due("32: away from 0", d.x.area(0), d.x.area(1), 16, 1);
+        tell("of:2;keep:3x+y>5;keep:2x-3y<3;box:x<5;box:y<5");
+        d.due("32: away from 0, askew", d.x.area(0), d.x.area(1), 1106, 33);
         tell("of:2;keep:x+y<5;keep:x+y>5");
         d.due("32: of a line", d.x.area(0), d.x.area(1), 0, 1);
         tell(EMPTY);
@@ -766,6 +788,11 @@ public final class PromiseTests {
             d.due("36: " + law[0], d.x.chosen(0), Integer.parseInt(law[1]));
             d.due("36: " + law[0] + " worth", d.x.chosen(1), Integer.parseInt(law[2]));
         }
+        tell(BOW);
+        d.law("vt*100+n*10+e(i=2)");
+        d.due("36: efficient neighbours, whatever the edge", d.x.chosen(1), 432);
+        d.law("v5(i=0);x(i=1);x(i=2)");
+        d.due("36: what is not efficient is not asked", d.x.chosen(0), 3);
         d.due("36: of a new object", new SeveralWishes().chosen(0), 0);
         for (int no : new int[] {-1, 2, MANY, FEW}) {
             d.due("36: no such what", d.x.chosen(no), -100001);
