@@ -1124,11 +1124,11 @@ public final class SeveralWishes {
             text.expect('<');
             int first = text.at;
             int number = text.readNumber(DIGITS);
-            // Ahead of a third digit: that stands behind, and what is told is the first from the left.
+            // First of all a third digit: where one stands the number has not ended, so its size is not asked.
+            text.refuseDigit();
             if (number < 1 || number > BOX) {
                 text.fail(3, first);
             }
-            text.refuseDigit();
             into.box[q] = number;
         }
 

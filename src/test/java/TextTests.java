@@ -252,10 +252,10 @@ public final class TextTests {
                 number = 10 * number + c - '0';
                 return 0;
             }
-            if (at == At.BOX_DIGIT && (number < 1 || number > 9)) {
-                return fault(3, numberAt);
+            if (isDigit(c)) {
+                return fault(2, i);
             }
-            return isDigit(c) ? fault(2, i) : lineEnd(c, i);
+            return at == At.BOX_DIGIT && (number < 1 || number > 9) ? fault(3, numberAt) : lineEnd(c, i);
         }
 
         private int quantityOfBox(int c, int i) {
