@@ -1,18 +1,70 @@
-/** Feeds texts to an object and counts the answers that are not as due. */
+/** Feeds texts to an object, counts its calls and the answers that are not as due. */
 final class Desk {
+    /** What an object answers behind so many calls is free: no test may ask for it. */
+    private static final int CALLS = 512;
+    /** Calls enough for a text and what is asked behind it. */
+    private static final int ROOM = 40;
+
     private final String name;
+    private final boolean isRenewed;
     private int wrong = 0;
     private int asked = 0;
-    SeveralWishes x = new SeveralWishes();
+    private SeveralWishes object = new SeveralWishes();
+    private int calls = 0;
+    private String problem = "";
+    private String law = "";
 
     Desk(String name) {
+        this(name, false);
+    }
+
+    /** If it is renewed, a new object with the like PROBLEM and LAW goes on when one has had its calls. */
+    Desk(String name, boolean isRenewed) {
         this.name = name;
+        this.isRenewed = isRenewed;
     }
 
     /** A new object. */
     Desk fresh() {
-        x = new SeveralWishes();
+        object = new SeveralWishes();
+        calls = 0;
+        problem = "";
+        law = "";
         return this;
+    }
+
+    /** The object, for one call. */
+    SeveralWishes x() {
+        renew();
+        return call();
+    }
+
+    /** How many calls the object has had. */
+    int calls() {
+        return calls;
+    }
+
+    private SeveralWishes call() {
+        calls++;
+        if (calls == CALLS + 1) {
+            due("this test's calls of one object", calls, CALLS);
+        }
+        return object;
+    }
+
+    private void renew() {
+        if (!isRenewed || calls < CALLS - ROOM) {
+            return;
+        }
+        String toldProblem = problem;
+        String toldLaw = law;
+        fresh();
+        if (!toldProblem.isEmpty()) {
+            problem(toldProblem);
+        }
+        if (!toldLaw.isEmpty()) {
+            law(toldLaw);
+        }
     }
 
     void feed(String text) {
@@ -22,18 +74,24 @@ final class Desk {
                 int sign = from + i < text.length() ? text.charAt(from + i) & 255 : 'a';
                 fours[i / 4] = fours[i / 4] << 8 | sign;
             }
-            x.feed(fours[0], fours[1], fours[2], fours[3], fours[4]);
+            call().feed(fours[0], fours[1], fours[2], fours[3], fours[4]);
         }
     }
 
     int problem(String text) {
+        renew();
         feed(text);
-        return x.problem(text.length());
+        int answer = call().problem(text.length());
+        problem = answer >= 0 ? text : problem;
+        return answer;
     }
 
     int law(String text) {
+        renew();
         feed(text);
-        return x.law(text.length());
+        int answer = call().law(text.length());
+        law = answer >= 0 ? text : law;
+        return answer;
     }
 
     int check(int... bytes) {
@@ -42,13 +100,15 @@ final class Desk {
             text.append((char) sign);
         }
         feed(text.toString());
-        return x.check(bytes.length);
+        return call().check(bytes.length);
     }
 
     String spelt(int i) {
         StringBuilder text = new StringBuilder();
-        for (int at = 0; at < 100 && x.spelt(i, at) >= 0; at++) {
-            text.append((char) x.spelt(i, at));
+        int sign = x().spelt(i, 0);
+        while (sign >= 0 && text.length() < 100) {
+            text.append((char) sign);
+            sign = x().spelt(i, text.length());
         }
         return text.toString();
     }

@@ -96,6 +96,7 @@ public final class LanguageTests {
         none("rules", wrong);
     }
 
+    /** What LANGUAGE.md rules out and can be seen in a line; what it allows is not asked here. */
     private static void source() throws IOException {
         List<String> wrong = new ArrayList<>();
         String method = "";
@@ -104,9 +105,9 @@ public final class LanguageTests {
         for (String text : Files.readAllLines(SOURCE)) {
             line++;
             String code = text.replaceAll("\"[^\"]*\"", "\"\"").replaceAll("//.*|^\\s*/?\\*.*", "");
-            if (code.matches(".*\\b(throw|throws|try|catch|synchronized|assert|import|package|instanceof|native"
-                    + "|volatile|transient|strictfp|var|record|enum|interface|extends|implements|double|float)\\b.*")
-                    || code.matches(".*(->|::|@|\\bMath\\.\\w*Exact|System\\.(?!arraycopy)|\\bRandom\\b|\\bThread\\b).*")) {
+            if (code.matches(".*\\b(throw|throws|try|catch|synchronized|assert|package|native|volatile|hashCode)\\b.*")
+                    || code.matches(".*(::|\\bMath\\.\\w*Exact|System\\.(?!arraycopy)|\\bRandom\\b|\\bThread\\b).*")
+                    || code.contains("->") && !code.matches("\\s*(case|default)\\b.*")) {
                 wrong.add(line + ": " + text.trim());
             }
             if (code.matches(" {4}( {4})?\\S.*\\) \\{") && !code.matches(".*\\b(if|for|while|switch|else|class)\\b.*")) {
@@ -119,8 +120,8 @@ public final class LanguageTests {
                 }
                 method = "";
             }
-            if (text.length() > 120 || !text.chars().allMatch(c -> c < 127)) {
-                wrong.add(line + ": too long, or no plain sign");
+            if (!text.matches("[\\t -~]*")) {
+                wrong.add(line + ": a sign that is not 32 to 126");
             }
         }
         none("source", wrong);
@@ -128,66 +129,75 @@ public final class LanguageTests {
 
     /** Rule 12: all rows are made in the constructor; a call makes nothing. */
     private static void nothingIsMade() {
+        String problem = "of:3;wish:3x+2y+z;least:x-2z;wish:y;keep:3x+2y-z<13;keep:2x+3y+z<17;keep:x-2y+3z>1"
+                + ";keep:x+y+z<14;box:x<7;box:z<8";
         long made = 0;
         for (int round = 0; round < 3; round++) {
-            d.fresh();
-            String problem = "of:3;wish:3x+2y+z;least:x-2z;wish:y;keep:3x+2y-z<13;keep:2x+3y+z<17;keep:x-2y+3z>1"
-                    + ";keep:x+y+z<14;box:x<7;box:z<8";
-            int corners = d.problem(problem);
-            d.feed("vi*a/[b-3](a>2|!(b<c&t=3));x(n<e)");
-            long asking = bytes();
-            long before = bytes();
-            askAll(corners);
-            made = bytes() - before - (before - asking);
+            made = 0;
+            int corners = d.fresh().problem(problem);
+            for (int i = -1; i <= corners; i++) {
+                d.fresh().problem(problem);
+                d.feed("vi*a/[b-3](a>2|!(b<c&t=3));x(n<e)");
+                made += madeByAsking(i);
+            }
         }
         d.due("12: bytes made by calls", made, 0);
+    }
+
+    private static long madeByAsking(int i) {
+        SeveralWishes x = d.x();
+        long asking = bytes();
+        long before = bytes();
+        askAll(x, i);
+        return bytes() - before - (before - asking);
     }
 
     private static long bytes() {
         return THREADS.getThreadAllocatedBytes(Thread.currentThread().getId());
     }
 
-    private static void askAll(int corners) {
-        SeveralWishes x = d.x;
+    /** 347 calls. */
+    private static void askAll(SeveralWishes x, int i) {
         x.law(33);
-        for (int i = -1; i <= corners; i++) {
-            for (int what = -1; what < 13; what++) {
-                x.corner(i, what);
-                x.wishAt(i, what / 2, what % 2);
-                x.cornerIs(i, what);
-                x.edge(i, what);
-                x.reach(i, what, true);
-                x.along(i, what, 3);
-                x.slack(i, what, 0);
-                x.far(i, what);
-                x.price(i, what, 0, 1, 0);
-                x.walk(i, 1, 2, 3, what);
-                x.spelt(i, what);
-                x.all(what);
-                x.face(what, 2);
-                x.plane(what, 3);
-                x.weights(i, what);
-                x.turn(what);
-                x.ranked(what, i);
-                x.plan(what, i, 0);
-                x.gain(what, i, 0, 0);
-                x.better(what, i, 0, 0);
-                x.needed(what);
-                x.shadow(what, 1, 2, 3, 0);
-            }
-            x.middle(true, i);
-            x.ideal(i, 0);
-            x.best(i, 1, 1, 0);
-            x.heldAt(0, 1, i, 0);
-            x.whole(1, 2, i, 2);
-            x.regret(i);
-            x.area(i);
-            x.chosen(0);
-            x.behind(102);
+        for (int what = -1; what < 13; what++) {
+            x.corner(i, what);
+            x.wishAt(i, what / 2, what % 2);
+            x.cornerIs(i, what);
+            x.edge(i, what);
+            x.reach(i, what, true);
+            x.along(i, what, 3);
+            x.slack(i, what, 0);
+            x.far(i, what);
+            x.price(i, what, 0, 1, 0);
+            x.walk(i, 1, 2, 3, what);
+            x.spelt(i, what);
+            x.all(what);
+            x.face(what, 2);
+            x.plane(what, 3);
+            x.weights(i, what);
+            x.turn(what);
+            x.ranked(what, i);
+            x.plan(what, i, 0);
+            x.gain(what, i, 0, 0);
+            x.better(what, i, 0, 0);
+            x.needed(what);
+            x.shadow(what, 1, 2, 3, 0);
+            x.problemIs(what);
+            x.wish(what, 0);
         }
+        x.middle(true, i);
+        x.ideal(i, 0);
+        x.best(i, 1, 1, 0);
+        x.heldAt(0, 1, i, 0);
+        x.whole(1, 2, i, 2);
+        x.regret(i);
+        x.area(i);
+        x.chosen(0);
+        x.behind(102);
         x.keep();
         x.undo();
         x.feed(1, 2, 3, 4, 5);
         x.check(9);
+        x.count(1);
     }
 }

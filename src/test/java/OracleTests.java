@@ -5,7 +5,7 @@ import java.util.Random;
 /** Random problems: every answer beside the one that the oracle reckons another way. */
 public final class OracleTests {
     private static final int PROBLEMS = Integer.getInteger("problems", 260);
-    private static final Desk d = new Desk("OracleTests");
+    private static final Desk d = new Desk("OracleTests", true);
     private static Oracle o;
     private static String told;
 
@@ -71,23 +71,23 @@ public final class OracleTests {
     }
 
     private static void tellsWhatWasTold() {
-        due("problemIs(0)", d.x.problemIs(0), o.n);
-        due("problemIs(1)", d.x.problemIs(1), o.wishes.size());
-        due("problemIs(2)", d.x.problemIs(2), o.keeps.size());
-        due("problemIs(3)", d.x.problemIs(3), o.planes.size());
+        due("problemIs(0)", d.x().problemIs(0), o.n);
+        due("problemIs(1)", d.x().problemIs(1), o.wishes.size());
+        due("problemIs(2)", d.x().problemIs(2), o.keeps.size());
+        due("problemIs(3)", d.x().problemIs(3), o.planes.size());
         for (int q = 0; q < 3; q++) {
-            due("problemIs box " + q, d.x.problemIs(10 + q), q < o.n ? o.box[q] : -1);
+            due("problemIs box " + q, d.x().problemIs(10 + q), q < o.n ? o.box[q] : -1);
             for (int w = 0; w < 3; w++) {
                 boolean is = q < o.n && w < o.wishes.size();
-                due("wish " + w + " " + q, d.x.wish(w, q), is ? o.wishes.get(w)[q] : -100000);
+                due("wish " + w + " " + q, d.x().wish(w, q), is ? o.wishes.get(w)[q] : -100000);
             }
         }
         for (int k = 0; k < o.planes.size(); k++) {
             for (int what = 0; what < 4; what++) {
-                due("plane " + k + " " + what, d.x.plane(k, what), o.planes.get(k)[what]);
+                due("plane " + k + " " + what, d.x().plane(k, what), o.planes.get(k)[what]);
             }
             int kind = k < o.keeps.size() ? (o.less.get(k) ? 0 : 1) : k < o.keeps.size() + o.n ? 2 : 3;
-            due("kind of plane " + k, d.x.plane(k, 4), kind);
+            due("kind of plane " + k, d.x().plane(k, 4), kind);
         }
     }
 
@@ -99,35 +99,35 @@ public final class OracleTests {
             Q[] c = o.corners.get(i);
             StringBuilder text = new StringBuilder();
             for (int q = 0; q < o.n; q++) {
-                due("corner " + i, d.x.corner(i, 2 * q), d.x.corner(i, 2 * q + 1), c[q]);
+                due("corner " + i, d.x().corner(i, 2 * q), d.x().corner(i, 2 * q + 1), c[q]);
                 text.append(q > 0 ? "," : "").append(c[q]);
             }
             d.due(told + " spelt " + i, d.spelt(i), text.toString());
-            due("spelt behind", d.x.spelt(i, text.length()), -2);
+            due("spelt behind", d.x().spelt(i, text.length()), -2);
             for (int w = 0; w < o.wishes.size(); w++) {
-                due("wishAt " + i, d.x.wishAt(i, w, 0), d.x.wishAt(i, w, 1), o.wish(w, c));
+                due("wishAt " + i, d.x().wishAt(i, w, 0), d.x().wishAt(i, w, 1), o.wish(w, c));
             }
-            due("tight " + i, d.x.cornerIs(i, 0), o.tight(c));
-            due("efficient " + i, d.x.cornerIs(i, 2), o.isEfficient(c) ? 1 : 0);
-            due("weak " + i, d.x.cornerIs(i, 3), o.isWeak(c) ? 1 : 0);
+            due("tight " + i, d.x().cornerIs(i, 0), o.tight(c));
+            due("efficient " + i, d.x().cornerIs(i, 2), o.isEfficient(c) ? 1 : 0);
+            due("weak " + i, d.x().cornerIs(i, 3), o.isWeak(c) ? 1 : 0);
             crowded += Integer.bitCount(o.tight(c)) > o.n ? 1 : 0;
             weak += o.isWeak(c) ? 1 : 0;
             if (o.isEfficient(c)) {
                 efficient.add(c);
             }
         }
-        due("all(0)", d.x.all(0), o.corners.size());
-        due("all(2)", d.x.all(2), efficient.size());
-        due("all(6)", d.x.all(6), weak);
-        due("all(11)", d.x.all(11), crowded);
-        due("all(9)", d.x.all(9), efficient.stream().map(OracleTests::values).distinct().count());
+        due("all(0)", d.x().all(0), o.corners.size());
+        due("all(2)", d.x().all(2), efficient.size());
+        due("all(6)", d.x().all(6), weak);
+        due("all(11)", d.x().all(11), crowded);
+        due("all(9)", d.x().all(9), efficient.stream().map(OracleTests::values).distinct().count());
         for (int q = 0; q < o.n; q++) {
             if (o.corners.isEmpty()) {
-                due("middle", d.x.middle(false, 2 * q), -2);
-                due("middle", d.x.middle(true, 2 * q + 1), -2);
+                due("middle", d.x().middle(false, 2 * q), -2);
+                due("middle", d.x().middle(true, 2 * q + 1), -2);
             } else {
-                due("middle", d.x.middle(false, 2 * q), d.x.middle(false, 2 * q + 1), o.middle(o.corners)[q]);
-                due("middle", d.x.middle(true, 2 * q), d.x.middle(true, 2 * q + 1), o.middle(efficient)[q]);
+                due("middle", d.x().middle(false, 2 * q), d.x().middle(false, 2 * q + 1), o.middle(o.corners)[q]);
+                due("middle", d.x().middle(true, 2 * q), d.x().middle(true, 2 * q + 1), o.middle(efficient)[q]);
             }
         }
         layers();
@@ -168,10 +168,10 @@ public final class OracleTests {
         int most = -1;
         for (int i = 0; i < o.corners.size(); i++) {
             int layer = layer(o.corners.get(i));
-            due("layer " + i, d.x.cornerIs(i, 4), layer);
+            due("layer " + i, d.x().cornerIs(i, 4), layer);
             most = Math.max(most, layer);
         }
-        due("all(5)", d.x.all(5), most + 1);
+        due("all(5)", d.x().all(5), most + 1);
     }
 
     private static void graph() {
@@ -192,20 +192,20 @@ public final class OracleTests {
                 good[i][j] = i == j ? 0 : efficient ? 1 : 1000;
                 links += linked ? 1 : 0;
                 goodLinks += efficient ? 1 : 0;
-                due("edge " + i + " " + j, d.x.edge(i, j), i == j ? -1 : efficient ? 2 : linked ? 1 : 0);
+                due("edge " + i + " " + j, d.x().edge(i, j), i == j ? -1 : efficient ? 2 : linked ? 1 : 0);
                 for (int tenths : new int[] {0, 3, 10}) {
                     boolean is = o.isEfficient(o.between(a, b, Q.of(tenths, 10)));
-                    due("along " + i + " " + j + " " + tenths, d.x.along(i, j, tenths), is ? 2 : 1);
+                    due("along " + i + " " + j + " " + tenths, d.x().along(i, j, tenths), is ? 2 : 1);
                 }
                 prices(i, j, linked);
             }
-            due("neighbours " + i, d.x.cornerIs(i, 1), links);
-            due("efficient edges " + i, d.x.cornerIs(i, 5), goodLinks);
+            due("neighbours " + i, d.x().cornerIs(i, 1), links);
+            due("efficient edges " + i, d.x().cornerIs(i, 5), goodLinks);
             edges += links;
             goodEdges += goodLinks;
         }
-        due("all(1)", d.x.all(1), edges / 2);
-        due("all(3)", d.x.all(3), goodEdges / 2);
+        due("all(1)", d.x().all(1), edges / 2);
+        due("all(3)", d.x().all(3), goodEdges / 2);
         ways(all, false);
         ways(good, true);
     }
@@ -224,19 +224,19 @@ public final class OracleTests {
             int far = 0;
             boolean first = o.isEfficient(o.corners.get(i));
             for (int j = 0; j < many; j++) {
-                due("reach " + i + " " + j + " " + byEfficient, d.x.reach(i, j, byEfficient),
+                due("reach " + i + " " + j + " " + byEfficient, d.x().reach(i, j, byEfficient),
                         steps[i][j] >= 1000 ? -2 : steps[i][j]);
                 far = steps[i][j] > steps[i][far] ? j : far;
                 first &= !(j < i && steps[i][j] < 1000);
             }
             pieces += first ? 1 : 0;
             if (!byEfficient) {
-                due("far " + i, d.x.far(i, 0), far);
-                due("how far " + i, d.x.far(i, 1), steps[i][far]);
+                due("far " + i, d.x().far(i, 0), far);
+                due("how far " + i, d.x().far(i, 1), steps[i][far]);
             }
         }
         if (byEfficient) {
-            due("all(4)", d.x.all(4), pieces);
+            due("all(4)", d.x().all(4), pieces);
         }
     }
 
@@ -248,11 +248,11 @@ public final class OracleTests {
                 String call = "price " + i + " " + j + " " + w + " " + v;
                 Q through = o.wish(v, b).minus(o.wish(v, a));
                 if (!linked || v == w) {
-                    due(call, d.x.price(i, j, w, v, 0), -100000000);
+                    due(call, d.x().price(i, j, w, v, 0), -100000000);
                 } else if (through.sign() == 0) {
-                    due(call, d.x.price(i, j, w, v, 1), -99999999);
+                    due(call, d.x().price(i, j, w, v, 1), -99999999);
                 } else {
-                    due(call, d.x.price(i, j, w, v, 0), d.x.price(i, j, w, v, 1),
+                    due(call, d.x().price(i, j, w, v, 0), d.x().price(i, j, w, v, 1),
                             o.wish(w, b).minus(o.wish(w, a)).over(through));
                 }
             }
@@ -268,10 +268,10 @@ public final class OracleTests {
             int[] less = new int[3];
             less[w] = -1;
             if (o.corners.isEmpty()) {
-                due("ideal", d.x.ideal(w, 2), -100000000);
+                due("ideal", d.x().ideal(w, 2), -100000000);
             } else {
-                due("ideal " + w, d.x.ideal(w, 0), d.x.ideal(w, 1), o.most(one, o.corners));
-                due("worst " + w, d.x.ideal(w, 2), d.x.ideal(w, 3), o.most(less, efficient).negate());
+                due("ideal " + w, d.x().ideal(w, 0), d.x().ideal(w, 1), o.most(one, o.corners));
+                due("worst " + w, d.x().ideal(w, 2), d.x().ideal(w, 3), o.most(less, efficient).negate());
             }
             ranked(w, efficient);
             for (int v = 0; v < m; v++) {
@@ -283,15 +283,15 @@ public final class OracleTests {
             int[] g = {r.nextInt(10), r.nextInt(10), r.nextInt(10)};
             Q most = o.most(g, o.corners);
             if (most == null) {
-                due("best", d.x.best(g[0], g[1], g[2], 2), -100000000);
-                due("shadow", d.x.shadow(0, g[0], g[1], g[2], 0), -100000000);
+                due("best", d.x().best(g[0], g[1], g[2], 2), -100000000);
+                due("shadow", d.x().shadow(0, g[0], g[1], g[2], 0), -100000000);
             } else {
-                due("best", d.x.best(g[0], g[1], g[2], 0), d.x.best(g[0], g[1], g[2], 1), most);
+                due("best", d.x().best(g[0], g[1], g[2], 0), d.x().best(g[0], g[1], g[2], 1), most);
                 int first = 0;
                 while (!o.weighted(g, o.corners.get(first)).equals(most)) {
                     first++;
                 }
-                due("best", d.x.best(g[0], g[1], g[2], 2), first);
+                due("best", d.x().best(g[0], g[1], g[2], 2), first);
                 shadows(g, most);
             }
             whole(g);
@@ -304,24 +304,24 @@ public final class OracleTests {
         List<Q[]> rows = new ArrayList<>(efficient);
         rows.sort((a, b) -> o.wish(w, b).compareTo(o.wish(w, a)));
         for (int i = 0; i < rows.size(); i++) {
-            due("ranked " + w + " " + i, d.x.ranked(w, i), o.corners.indexOf(rows.get(i)));
+            due("ranked " + w + " " + i, d.x().ranked(w, i), o.corners.indexOf(rows.get(i)));
         }
-        due("ranked " + w, d.x.ranked(w, rows.size()), -4);
+        due("ranked " + w, d.x().ranked(w, rows.size()), -4);
     }
 
     private static void held(int w, int v, int k, int[] one) {
         String call = "heldAt " + w + " " + v + " " + k;
         if (w == v) {
-            due(call, d.x.heldAt(w, v, k, 0), -100000000);
+            due(call, d.x().heldAt(w, v, k, 0), -100000000);
             return;
         }
         List<Q[]> rows = o.bounds(-1, -1);
         rows.add(o.wishBound(v, Q.of(k)));
         Q most = o.most(one, o.points(rows));
         if (most == null) {
-            due(call, d.x.heldAt(w, v, k, 0), -99999999);
+            due(call, d.x().heldAt(w, v, k, 0), -99999999);
         } else {
-            due(call, d.x.heldAt(w, v, k, 0), d.x.heldAt(w, v, k, 1), most);
+            due(call, d.x().heldAt(w, v, k, 0), d.x().heldAt(w, v, k, 1), most);
         }
     }
 
@@ -329,9 +329,9 @@ public final class OracleTests {
         for (int k = 0; k < o.keeps.size(); k++) {
             Q then = o.most(g, o.points(o.bounds(-1, k)));
             if (then == null) {
-                due("shadow " + k, d.x.shadow(k, g[0], g[1], g[2], 1), -99999999);
+                due("shadow " + k, d.x().shadow(k, g[0], g[1], g[2], 1), -99999999);
             } else {
-                due("shadow " + k, d.x.shadow(k, g[0], g[1], g[2], 0), d.x.shadow(k, g[0], g[1], g[2], 1),
+                due("shadow " + k, d.x().shadow(k, g[0], g[1], g[2], 0), d.x().shadow(k, g[0], g[1], g[2], 1),
                         then.minus(most));
             }
         }
@@ -352,9 +352,9 @@ public final class OracleTests {
                 }
             }
         }
-        due("whole", d.x.whole(g[0], g[1], g[2], 0), plans);
-        due("whole", d.x.whole(g[0], g[1], g[2], 1), most == null ? -100000 : most.up.longValueExact());
-        due("whole", d.x.whole(g[0], g[1], g[2], 2), first);
+        due("whole", d.x().whole(g[0], g[1], g[2], 0), plans);
+        due("whole", d.x().whole(g[0], g[1], g[2], 1), most == null ? -100000 : most.up.longValueExact());
+        due("whole", d.x().whole(g[0], g[1], g[2], 2), first);
     }
 
     private static Q[] point(int... of) {
@@ -390,7 +390,7 @@ public final class OracleTests {
             left = left.stream().filter(c -> o.wish(w, c).equals(most)).toList();
         }
         int due = order.isEmpty() ? -1 : left.isEmpty() ? -2 : o.corners.indexOf(left.get(0));
-        due("behind " + order, d.x.behind(number), due);
+        due("behind " + order, d.x().behind(number), due);
     }
 
     private static void regret() {
@@ -409,9 +409,9 @@ public final class OracleTests {
                 first = i;
             }
         }
-        due("regret", d.x.regret(2), first);
+        due("regret", d.x().regret(2), first);
         if (least != null) {
-            due("regret", d.x.regret(0), d.x.regret(1), least);
+            due("regret", d.x().regret(0), d.x().regret(1), least);
         }
     }
 
@@ -429,18 +429,18 @@ public final class OracleTests {
         Q[] p = point(x, y, z);
         String call = x + " " + y + " " + z;
         if (p == null || !o.allows(p)) {
-            due("plan " + call, d.x.plan(x, y, z), p == null ? -1 : 0);
-            due("gain " + call, d.x.gain(x, y, z, 0), p == null ? -1 : -2);
-            due("better " + call, d.x.better(x, y, z, 1), p == null ? -1 : -2);
+            due("plan " + call, d.x().plan(x, y, z), p == null ? -1 : 0);
+            due("gain " + call, d.x().gain(x, y, z, 0), p == null ? -1 : -2);
+            due("better " + call, d.x().better(x, y, z, 1), p == null ? -1 : -2);
             return;
         }
-        due("plan " + call, d.x.plan(x, y, z), o.isEfficient(p) ? 2 : 1);
+        due("plan " + call, d.x().plan(x, y, z), o.isEfficient(p) ? 2 : 1);
         Q[] better = o.better(p);
         int[] ones = {1, 1, 1};
-        due("gain " + call, d.x.gain(x, y, z, 0), d.x.gain(x, y, z, 1),
+        due("gain " + call, d.x().gain(x, y, z, 0), d.x().gain(x, y, z, 1),
                 o.weighted(ones, better).minus(o.weighted(ones, p)));
         for (int q = 0; q < o.n; q++) {
-            due("better " + call, d.x.better(x, y, z, 2 * q), d.x.better(x, y, z, 2 * q + 1), better[q]);
+            due("better " + call, d.x().better(x, y, z, 2 * q), d.x().better(x, y, z, 2 * q + 1), better[q]);
         }
     }
 
@@ -453,13 +453,13 @@ public final class OracleTests {
             List<Q[]> on = o.corners.stream().filter(c -> o.over(plane, c).sign() == 0).toList();
             boolean face = o.n == 3 && on.size() >= 3 && !o.areInLine(on);
             boolean good = face && o.isEfficient(o.middle(on));
-            due("face " + k, d.x.face(k, 0), on.size());
-            due("face " + k, d.x.face(k, 1), face ? 1 : 0);
-            due("face " + k, d.x.face(k, 2), good ? 1 : 0);
+            due("face " + k, d.x().face(k, 0), on.size());
+            due("face " + k, d.x().face(k, 1), face ? 1 : 0);
+            due("face " + k, d.x().face(k, 2), good ? 1 : 0);
             faces += face ? 1 : 0;
             goodFaces += good ? 1 : 0;
             for (int i = 0; i < o.corners.size(); i++) {
-                due("slack " + i + " " + k, d.x.slack(i, k, 0), d.x.slack(i, k, 1),
+                due("slack " + i + " " + k, d.x().slack(i, k, 0), d.x().slack(i, k, 1),
                         o.over(k, o.corners.get(i)).abs());
             }
             if (k < o.keeps.size()) {
@@ -468,32 +468,32 @@ public final class OracleTests {
                 for (int i = 0; i < then.size() && !more; i++) {
                     more = Oracle.compare(then.get(i), o.corners.get(i)) != 0;
                 }
-                due("needed " + k, d.x.needed(k), more ? 1 : 0);
+                due("needed " + k, d.x().needed(k), more ? 1 : 0);
                 needed += more ? 1 : 0;
             }
         }
-        due("all(7)", d.x.all(7), faces);
-        due("all(8)", d.x.all(8), goodFaces);
-        due("all(10)", d.x.all(10), needed);
+        due("all(7)", d.x().all(7), faces);
+        due("all(8)", d.x().all(8), goodFaces);
+        due("all(10)", d.x().all(10), needed);
         if (o.n == 2) {
-            due("area", d.x.area(0), d.x.area(1), o.area());
+            due("area", d.x().area(0), d.x().area(1), o.area());
         } else {
-            due("area", d.x.area(0), -3);
+            due("area", d.x().area(0), -3);
         }
     }
 
     private static void shares() {
         if (o.wishes.size() != 2) {
-            due("turn", d.x.turn(200), -3);
-            due("weights", d.x.weights(99, 0), -3);
+            due("turn", d.x().turn(200), -3);
+            due("weights", d.x().weights(99, 0), -3);
             return;
         }
         List<Q> turns = o.turns();
-        due("turn(200)", d.x.turn(200), turns.size());
+        due("turn(200)", d.x().turn(200), turns.size());
         for (int t = 0; t < turns.size(); t++) {
-            due("turn " + t, d.x.turn(2 * t), d.x.turn(2 * t + 1), turns.get(t));
+            due("turn " + t, d.x().turn(2 * t), d.x().turn(2 * t + 1), turns.get(t));
         }
-        due("turn", d.x.turn(2 * turns.size()), -2);
+        due("turn", d.x().turn(2 * turns.size()), -2);
         for (int i = 0; i < o.corners.size(); i++) {
             Q least = null;
             Q greatest = null;
@@ -504,10 +504,10 @@ public final class OracleTests {
                 }
             }
             if (least == null) {
-                due("weights " + i, d.x.weights(i, 0), -2);
+                due("weights " + i, d.x().weights(i, 0), -2);
             } else {
-                due("weights " + i, d.x.weights(i, 0), d.x.weights(i, 1), least);
-                due("weights " + i, d.x.weights(i, 2), d.x.weights(i, 3), greatest);
+                due("weights " + i, d.x().weights(i, 0), d.x().weights(i, 1), least);
+                due("weights " + i, d.x().weights(i, 2), d.x().weights(i, 3), greatest);
             }
         }
     }
@@ -525,15 +525,15 @@ public final class OracleTests {
                     Q most = o.weighted(g, o.corners.get(here));
                     for (int j = 0; j < o.corners.size(); j++) {
                         Q value = o.weighted(g, o.corners.get(j));
-                        if (d.x.edge(here, j) > 0 && value.compareTo(most) > 0) {
+                        if (d.x().edge(here, j) > 0 && value.compareTo(most) > 0) {
                             most = value;
                             next = j;
                         }
                     }
                     steps++;
                 }
-                due("walk " + i, d.x.walk(i, g[0], g[1], g[2], 0), here);
-                due("steps " + i, d.x.walk(i, g[0], g[1], g[2], 1), steps);
+                due("walk " + i, d.x().walk(i, g[0], g[1], g[2], 0), here);
+                due("steps " + i, d.x().walk(i, g[0], g[1], g[2], 1), steps);
             }
         }
     }
@@ -591,8 +591,8 @@ public final class OracleTests {
                 }
             }
         }
-        due(law + " chosen", d.x.chosen(0), chosen);
-        due(law + " worth", d.x.chosen(1), most);
+        due(law + " chosen", d.x().chosen(0), chosen);
+        due(law + " worth", d.x().chosen(1), most);
     }
 
     private static boolean holds(LawTree condition, int[] letters) {

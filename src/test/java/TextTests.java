@@ -16,7 +16,7 @@ public final class TextTests {
             String law = changed(r, law(r), "vx;()[]!&|<>=+-*/%0123456789iabctnedz:\u0000", 240);
             int rules = new LawMachine().read(law);
             d.due("law " + law, d.law(law), rules);
-            d.due("count(0) behind law " + law, d.x.count(0), Math.max(0, rules));
+            d.due("count(0) behind law " + law, d.x().count(0), Math.max(0, rules));
         }
         d.end();
     }
