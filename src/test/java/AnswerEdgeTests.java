@@ -31,6 +31,7 @@ public final class AnswerEdgeTests {
         wish();
         plane();
         corner();
+        cornersInSpace();
         wishAt();
         cornerIs();
         edge();
@@ -63,8 +64,12 @@ public final class AnswerEdgeTests {
         d.end();
     }
 
+    /** Mostly to an object that has been told others, and asked about them. */
     private static void tell(String problem) {
-        d.due(problem + " stands", d.fresh().problem(problem) >= 0 ? 1 : 0, 1);
+        if (d.calls() > 150) {
+            d.fresh();
+        }
+        d.due(problem + " stands", d.problem(problem) >= 0 ? 1 : 0, 1);
     }
 
     /** From least to most all is allowed, what is beyond is refused. */
@@ -171,6 +176,27 @@ public final class AnswerEdgeTests {
         tell("of:2;keep:3x+y<10;keep:2x-3y<3;keep:3x-y>1");
         row("8: by x, of unlike lower numbers", v -> d.x().corner(v / 4, v % 4), 1, 3, 0, 1, 3, 2, 0, 1, 11, 6, 9, 2,
                 3, 1, 1, 1);
+    }
+
+    private static void cornersInSpace() {
+        tell("of:3;keep:3x+2y-z<13;keep:2x+3y+z<17;keep:x-2y+3z>1;keep:2x-y+2z<11");
+        String[] all = {"0,0,1/3", "0,0,11/2", "0,23/7,50/7", "0,50/11,37/11", "1,0,0", "8/3,10/3,5/3", "7/2,5/4,0",
+            "19/5,11/5,14/5", "13/3,0,0", "37/8,0,7/8"};
+        for (int i = 0; i < all.length; i++) {
+            d.due("8: where KEEPS meet, by x", d.spelt(i), all[i]);
+        }
+        d.due("8: as many", d.x().all(0), all.length);
+        tell("of:3;keep:x<0;keep:2y+3z<10;keep:3y+2z<11;keep:3z-y>1");
+        String[] byY = {"0,0,1/3", "0,0,10/3", "0,13/5,8/5", "0,31/11,14/11"};
+        for (int i = 0; i < byY.length; i++) {
+            d.due("8: then by y, of unlike lower numbers", d.spelt(i), byY[i]);
+        }
+        d.due("8: as many", d.x().all(0), byY.length);
+        for (String keeps : new String[] {"keep:2y+2z<7;keep:3z-y>10", "keep:3z-y>10;keep:2y+2z<7"}) {
+            tell("of:3;keep:x<0;" + keeps);
+            d.due("8: then by z, of unlike lower numbers", d.spelt(0), "0,0,10/3");
+            d.due("8: then by z, of unlike lower numbers", d.spelt(1), "0,0,7/2");
+        }
     }
 
     private static void wishAt() {
@@ -288,6 +314,11 @@ public final class AnswerEdgeTests {
         row("10: like ones are both EFFICIENT", v -> d.x().cornerIs(v, 2), 0, 0, 1, 1);
         row("10: of one WISH the like are WEAK", v -> d.x().cornerIs(v, 3), 0, 0, 1, 1);
         d.due("11: the EDGE between like ones", d.x().edge(2, 3), 2);
+        tell("of:1;least:x");
+        row("10: the least is EFFICIENT", v -> d.x().cornerIs(v, 2), 1, 0);
+        d.due("18: what is inside can be less", d.x().plan(5, 0, 0), 1);
+        d.due("30: what is inside can be less", d.x().along(0, 1, 5), 1);
+        d.due("30: the last of tenths", d.x().along(1, 0, 10), 2);
         tell("of:2;wish:x-x");
         row("10: none can be more", v -> d.x().cornerIs(v, 2), 1, 1, 1, 1);
         tell("of:2;wish:x-x;wish:y");
@@ -309,6 +340,8 @@ public final class AnswerEdgeTests {
         tell("of:2;wish:x+2y");
         row("10: LAYERS, each its own", v -> d.x().cornerIs(v, 4), 3, 1, 2, 0);
         d.due("12: LAYERS", d.x().all(5), 4);
+        tell("of:1;least:x;box:x<1");
+        row("10: CORNER 0 is better, by one", v -> d.x().cornerIs(v, 4), 0, 1);
         tell("of:2;wish:x-x");
         row("10: like ones are in one LAYER", v -> d.x().cornerIs(v, 4), 0, 0, 0, 0);
         tell(BOX);
@@ -327,7 +360,11 @@ public final class AnswerEdgeTests {
         range("21: PLANE 0 to 9", 0, 9, NONE, v -> d.x().face(v, 0));
         range("21: what 0 to 2", 0, 2, NONE, v -> d.x().face(9, v));
         row("21: CORNERS on it", v -> d.x().face(v, 0), 3, 3, 3, 3, 6, 6, 7, 6, 6, 5);
+        row("21: it is a FACE", v -> d.x().face(v, 1), 1, 1, 1, 1, 1, 1, 1, 1, 1, 1);
         row("21: EFFICIENT", v -> d.x().face(v, 2), 1, 0, 0, 0, 0, 0, 0, 0, 0, 0);
+        tell("of:3;wish:x;wish:y;wish:z;keep:x+y+z<9");
+        row("21: an EDGE of it is not all of it", v -> d.x().face(v, 2), 1, 0, 0, 0, 0, 0, 0);
+        row("21: yet a FACE", v -> d.x().face(v, 1), 1, 1, 1, 1, 0, 0, 0);
         tell("of:3;keep:x+y+z<9");
         row("21: three CORNERS or more", v -> d.x().face(v, 0), 3, 3, 3, 3, 1, 1, 1);
         row("21: it is a FACE", v -> d.x().face(v, 1), 1, 1, 1, 1, 0, 0, 0);
@@ -398,6 +435,14 @@ public final class AnswerEdgeTests {
         row("13: from there on", v -> d.x().weights(1, v), 2, 5, 1, 1);
         tell("of:3;wish:2x+z;wish:2y+z;keep:x+y+z<9");
         row("13: in between: one share alone", v -> d.x().weights(1, v), 1, 2, 1, 2);
+        tell("of:2;wish:2x;wish:y;keep:3x+y<12;keep:x+3y<12");
+        row("13: the least, the greatest", v -> d.x().weights(1 + v / 4, v % 4), 0, 1, 1, 7, 1, 7, 3, 5, 3, 5, 1, 1);
+        row("13: there are none", v -> d.x().weights(0, v), -2, -2, -2, -2);
+        tell("of:3;wish:2x-2y;wish:2x+y+2z");
+        row("13: the least that all leave", v -> d.x().weights(4, v), 1, 1, 1, 1);
+        tell("of:1;wish:x;wish:x");
+        row("13: as much less of both: none", v -> d.x().weights(0, v), -2, -2, -2, -2);
+        row("13: all", v -> d.x().weights(1, v), 0, 1, 1, 1);
         d.due("13: no WISHES", d.fresh().x().weights(0, 0), -3);
         tell("of:1;wish:x");
         d.due("13: one WISH", d.x().weights(0, 0), -3);
@@ -423,7 +468,22 @@ public final class AnswerEdgeTests {
         row("23: near 1", v -> d.x().turn(v), 3, 4, -2);
         tell("of:1;wish:3x;least:x");
         row("23: near 0", v -> d.x().turn(v), 1, 4, -2);
+        String[] askew = {"of:2;wish:x;least:y", "of:2;least:x;wish:y", "of:2;least:x;least:y",
+            "of:2;wish:x;wish:y;box:x<1;box:y<1"};
+        for (String text : askew) {
+            tell(text);
+            d.due("23: not at 0, not at 1, not below the best: " + text, d.x().turn(200), 0);
+            d.due("23: none: " + text, d.x().turn(0), -2);
+        }
+        tell("of:1;wish:x;least:x;box:x<1");
+        row("23: unlike by one", v -> d.x().turn(v), 1, 2, -2);
+        tell("of:1;least:x;wish:x;box:x<1");
+        row("23: unlike by one", v -> d.x().turn(v), 1, 2, -2);
+        tell("of:2;least:x;wish:y;keep:y-3x<1;keep:y-x<3;keep:2y-x<8");
+        row("23: rising, however they are met", v -> d.x().turn(v), 1, 3, 1, 2, 3, 4, -2);
+        d.fresh();
         tell("of:3;wish:2x+z;wish:2y+z;keep:x+y+z<9");
+        d.due("23: three CORNERS at one share: once", d.x().turn(200), 1);
         row("23: three CORNERS at one share: once", v -> d.x().turn(v), 1, 2, -2);
         tell("of:2;wish:x;wish:x");
         d.due("23: CORNERS with like WISHES are as one", d.x().turn(200), 0);
@@ -452,6 +512,7 @@ public final class AnswerEdgeTests {
         tell(POINT);
         row("14: one CORNER", v -> d.x().ideal(1, v), 7, 3, 7, 3);
         tell("of:1;wish:x;least:3x;keep:2x>3");
+        row("14: WORST at the first", v -> d.x().ideal(0, v), 9, 1, 3, 2);
         row("14: below 0", v -> d.x().ideal(1, v), -9, 2, -27, 1);
         tell("of:1;wish:x-x");
         row("14: 0 over 1", v -> d.x().ideal(0, v), 0, 1, 0, 1);
@@ -515,6 +576,10 @@ public final class AnswerEdgeTests {
         tell(EMPTY);
         none("16: there are none", -2, v -> d.x().behind(v), 1, 10);
         none("16: no such order", NONE, v -> d.x().behind(v), 0, 2, 11, 100, -1, MANY, FEW);
+        tell("of:1;least:x;box:x<1");
+        d.due("16: CORNER 0, by one", d.x().behind(0), 0);
+        tell("of:1;wish:x;box:x<1");
+        d.due("16: CORNER 1, by one", d.x().behind(0), 1);
         tell("of:2;wish:x;wish:x-x");
         d.due("16: like in all: the lowest", d.x().behind(1), 2);
         d.due("16: like in all: the lowest", d.x().behind(10), 2);
@@ -540,7 +605,7 @@ public final class AnswerEdgeTests {
         d.due("17: the most", d.x().heldAt(1, 0, 81, 0), -81);
         d.due("17: above it", d.x().heldAt(1, 0, 82, 0), NO_VALUE);
         d.due("17: the least", d.x().heldAt(0, 1, -81, 0), 81);
-        d.due("17: 0", d.x().heldAt(0, 1, 0, 0), 0);
+        row("17: 0 over 1", v -> d.x().heldAt(0, 1, 0, v), 0, 1);
         d.due("17: above 0", d.x().heldAt(0, 1, 1, 0), NO_VALUE);
         tell("of:2;wish:x;wish:2y;keep:2x+3y<12");
         row("17: a fraction", v -> d.x().heldAt(0, 1, 7, v), 3, 4);
@@ -603,6 +668,9 @@ public final class AnswerEdgeTests {
         tell("of:2;wish:x;least:y;keep:3x-3y<1");
         row("19: no other one is", v -> d.x().gain(2, 3, 0, v), 4, 3);
         row("20: of like ones the least with each WISH no less", v -> d.x().better(2, 3, 0, v), 2, 1, 5, 3);
+        tell("of:3;wish:2x+y-z;wish:3z-y;least:y+z;keep:x+y+z<12");
+        row("19: of z, too", v -> d.x().gain(2, 1, 4, v), 40, 3);
+        row("20: of z, too", v -> d.x().better(2, 1, 4, v), 25, 3, 0, 1, 11, 3);
         tell("of:3;wish:3x+3y+3z;wish:3x+3y+3z;wish:3x+3y+3z");
         row("19: as much as can be", v -> d.x().gain(0, 0, 0, v), 243, 1);
     }
@@ -626,6 +694,10 @@ public final class AnswerEdgeTests {
         row("24: the first by x, y, z: 10 y", v -> d.x().whole(1, 0, 0, v), 64, 10, 190);
         tell("of:3;wish:x+y+z;keep:x+y+z<10;keep:z<8");
         row("24: the first by x, y, z", v -> d.x().whole(1, 0, 0, v), 280, 10, 28);
+        tell("of:3;wish:2x+3y-z;least:x-2y;keep:x+y+z<14");
+        row("24: of x, y and z unlike", v -> d.x().whole(2, 3, 0, v), 575, 113, 590);
+        tell("of:3;wish:3z-2y-x");
+        row("24: of x, y and z unlike", v -> d.x().whole(1, 0, 0, v), 1000, 27, 9);
         tell(POINT);
         row("24: there are none, what 0: 0", v -> d.x().whole(1, 1, 1, v), 0, NO_SUCH, NO_SUCH);
         tell(EMPTY);
@@ -773,6 +845,17 @@ public final class AnswerEdgeTests {
         row("32: of nothing 0 over 1", v -> d.x().area(v), 0, 1, NONE);
         tell("of:2;keep:2x+2y<1");
         row("32: a fraction", v -> d.x().area(v), 1, 4);
+        tell("of:2;keep:3x+y>5;keep:2x-3y<3;box:x<5;box:y<5");
+        row("32: away from 0, askew", v -> d.x().area(v), 1106, 33);
+        String[] askew = {"keep:3x+3y>7;keep:y<29;keep:2y>0", "keep:-2x+3y<17;keep:x>5;keep:x+3y<27",
+            "keep:-2x+3y>1;keep:-3x+2y>7;box:x<7;box:y<8", "keep:3x>2;keep:2x+3y<16;keep:2x+2y<19;box:x<1;box:y<6"};
+        int[][] areas = {{1409, 9}, {160, 3}, {27, 2}, {86, 27}};
+        for (int at = 0; at < 4; at++) {
+            tell("of:2;" + askew[at]);
+            row("32: askew: " + askew[at], v -> d.x().area(v), areas[at][0], areas[at][1], NONE);
+        }
+        tell("of:2;keep:x>3;keep:y>2;box:x<7;box:y<4");
+        row("32: away from 0", v -> d.x().area(v), 16, 1);
         tell("of:1");
         row("32: one QUANTITY", v -> d.x().area(v), -3, -3, NONE);
         tell("of:3;keep:z<0");
@@ -788,6 +871,9 @@ public final class AnswerEdgeTests {
         range("33: WISH 0 to 2", 0, 2, NONE, v -> d.x().ranked(v, 0));
         none("33: there are not so many", -4, v -> d.x().ranked(0, v), 16, 17, MANY);
         none("33: no such ones", NONE, v -> d.x().ranked(0, v), -1, FEW);
+        tell("of:1;wish:x;least:x;box:x<1");
+        row("33: more by one", v -> d.x().ranked(0, v), 1, 0, -4);
+        row("33: more by one", v -> d.x().ranked(1, v), 0, 1, -4);
         tell(FULL);
         row("33: EFFICIENT ones alone", v -> d.x().ranked(2, v), 9, 13, 15, -4);
         none("33: no WISHES", NONE, v -> d.fresh().x().ranked(v, 0), 0, 1, -1);
@@ -838,6 +924,12 @@ public final class AnswerEdgeTests {
         row("35: not on to a like one", v -> d.x().walk(2, 1, 0, 0, v), 2, 0);
         tell("of:2;wish:x+2y");
         row("35: to the most first", v -> d.x().walk(0, 1, 0, 0, v), 3, 2);
+        tell("of:2;least:x;least:y");
+        row("35: to CORNER 0", v -> d.x().walk(3, 1, 1, 0, v), 0, 2);
+        row("35: of like ones the lowest", v -> d.x().walk(3, 1, 1, 9, v), 0, 2);
+        tell("of:1;wish:x;box:x<1");
+        row("35: more by one", v -> d.x().walk(0, 1, 0, 0, v), 1, 1);
+        row("35: not by nothing", v -> d.x().walk(0, 0, 9, 9, v), 0, 0);
         tell(POINT);
         row("35: without NEIGHBOURS", v -> d.x().walk(0, 9, 9, 9, v), 0, 0);
         d.due("35: there is one", d.x().walk(1, 9, 9, 9, 0), -4);
@@ -859,6 +951,8 @@ public final class AnswerEdgeTests {
         none("37: no CORNERS", -4, v -> d.x().spelt(v, 0), 0, 1);
         tell("of:3;keep:3x<25;keep:3x>25;keep:2y>17;keep:2y<17");
         d.due("37: two digits above, one below", d.spelt(0), "25/3,17/2,0");
+        tell("of:3;keep:3x<10;keep:3x>10;keep:2y>11;keep:2y<11");
+        d.due("37: the least of two digits", d.spelt(0), "10/3,11/2,0");
         tell("of:3;keep:3x+3y-z<25;keep:3x-2y+3z>11;keep:x+3y+3z>29;keep:-2x+3y+3z<17");
         for (int i = 0; i < d.x().all(0); i++) {
             StringBuilder text = new StringBuilder();

@@ -257,6 +257,7 @@ public final class LawEdgeTests {
         chosen("t: all PLANES that are TIGHT", "of:3;keep:x-x<0;keep:y-y>0;keep:x+y+z>0;keep:x+y-z>0", "vt(1=1)", 0, 7);
         chosen("n, e: none", "of:2" + half + ";keep:3y>7;keep:3y<7", "vn*10+e+1(1=1)", 0, 1);
         chosen("n, e: all", "of:3", "vn*10+e(1=1)", 0, 33);
+        chosen("n, e: CORNER 0 is one", "of:1", "vn*10+e(i=1)", 1, 11);
         chosen("e: none of them", "of:2;wish:x+y", "vn*10+e(1=1)", 3, 20);
         chosen("e: whatever the EDGE is", "of:3;wish:3x+2z;wish:3y+2z;keep:x+y+z<9", "vt*100+n*10+e(i=2)", 2, 432);
         chosen("i: the last of sixteen", "of:3;wish:x;least:x;keep:x+y+z<24;keep:x+y+z>3;keep:x-y-z<6;keep:y-x-z<6",

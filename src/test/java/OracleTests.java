@@ -2,7 +2,7 @@ import java.util.ArrayList;
 import java.util.List;
 import java.util.Random;
 
-/** Random problems: every answer beside the one that the oracle reckons another way. */
+/** Random problems, told to objects that have had others: every answer beside the one that the oracle reckons another way. */
 public final class OracleTests {
     private static final int PROBLEMS = Integer.getInteger("problems", 260);
     private static final Desk d = new Desk("OracleTests", true);
@@ -15,7 +15,6 @@ public final class OracleTests {
             o = random(r);
             o.settle();
             told = o.text();
-            d.fresh();
             d.due(told, d.problem(told), o.corners.size());
             tellsWhatWasTold();
             corners();

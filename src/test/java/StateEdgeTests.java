@@ -23,7 +23,10 @@ public final class StateEdgeTests {
     /** One CORNER, 5/2 and 7/3. */
     private static final String POINT = "of:2;wish:x;wish:y;keep:2x>5;keep:2x<5;keep:3y>7;keep:3y<7";
     private static final String LAW = "v50-i*3(a>0-9);x(i=9999)";
-    private static final String KEPT = "of:2;wish:2x;keep:x+y<7";
+    private static final String KEPT = "of:3;wish:2x+y-3z;least:x+3y+2z;wish:3x-y+z;keep:x+y-z<7;keep:2x+3y+z>2;"
+            + "keep:3x-y+2z<18;keep:x+y+3z>1;box:x<6;box:y<5;box:z<4";
+    private static final String OTHER = "of:3;least:3x-2y+z;wish:y-z;least:2z-x;keep:3x+2y+z>4;keep:2x+z<16;"
+            + "keep:x-3y-z>0;keep:3x+3y-z<31;box:x<8;box:y<7;box:z<2";
     /** Twenty bytes, that stay on the tape. */
     private static final String ON_TAPE = "of:2;least:x;box:y<3";
 
@@ -197,6 +200,9 @@ public final class StateEdgeTests {
     private static SeveralWishes prepared(String problem) {
         d.fresh().problem(KEPT);
         d.x().keep();
+        // Two that share nothing with what is KEPT, so that nothing of it is left over where it was told.
+        d.problem(OTHER);
+        d.problem(OTHER);
         d.problem(problem);
         d.law(LAW);
         d.feed(ON_TAPE);
@@ -231,18 +237,25 @@ public final class StateEdgeTests {
         return all;
     }
 
+    /** Those of a new object that is told this PROBLEM and THE LAW, the text on its tape or nothing. */
+    private static List<Long> answersOf(String problem, boolean hasTape) {
+        d.fresh().problem(problem);
+        d.law(LAW);
+        if (hasTape) {
+            d.feed(ON_TAPE);
+        }
+        return answers();
+    }
+
     private static void same(String call, List<Long> is, List<Long> was) {
         d.due(call + ": is " + is + ", was " + was, is.equals(was) ? 1 : 0, 1);
     }
 
     /** Each call on an object of its own: it answers this, and then nothing is changed. */
     private static void leavesAll(String name, String problem, long due, Call... calls) {
-        prepared(problem);
-        List<Long> now = answers();
-        d.x().undo();
-        List<Long> kept = answers();
-        d.x().problem(20);
-        List<Long> onTape = answers();
+        List<Long> now = answersOf(problem, true);
+        List<Long> kept = answersOf(KEPT, true);
+        List<Long> onTape = answersOf(ON_TAPE, false);
         for (int at = 0; at < calls.length; at++) {
             String call = name + " " + due + ", call " + at;
             d.due(call, calls[at].ask(prepared(problem)), due);
@@ -327,12 +340,8 @@ public final class StateEdgeTests {
             "of:3;wish:z;least:z;wish:x;box:x<1;box:y<1;box:z<1;keep:x-y>3;keep:x+y<1;least:z", "of:3;box:x<1;box:y<2;"};
         String[] laws = {"v", "v9(i=0", "x(1=1);v1(i=123456)", "x(1=1);x(((((((i=0)))))))", "x(1=1);v1(1=1);",
             "x(1=1)" + ";x(1=1)".repeat(16)};
-        prepared(FULL);
-        d.x().problem(4);
-        d.x().undo();
-        List<Long> kept = answers();
-        d.problem(FULL);
-        List<Long> now = answers();
+        List<Long> kept = answersOf(KEPT, false);
+        List<Long> now = answersOf(FULL, false);
         for (String text : problems) {
             prepared(FULL);
             d.x().check(0);

@@ -196,11 +196,12 @@ public final class TextEdgeTests {
     // PROBLEMS.
 
     private static void words() {
-        for (String word : new String[] {"o", "off", "fo", "oof", "", "wish", "keep", "box", "least"}) {
+        for (String word : new String[] {"o", "off", "fo", "oof", "", "wish", "keep", "box", "least", "pf", "oe"}) {
             problem("1 a word that is none of these, another one where of is due", word + ":1", -1000);
         }
         for (String word : new String[] {"of", "w", "wis", "wishh", "wishes", "wwish", "leas", "leastx", "kee", "keeps",
-            "bo", "boxx", "xbox", "wishleast", ""}) {
+            "bo", "boxx", "xbox", "wishleast", "", "fish", "wash", "wist", "beast", "leapt", "leash", "jeep", "keel", "fox",
+            "bow", "bax"}) {
             problem("1 a word that is none of these, of where it is not the first", "of:1;" + word + ":x", -1005);
         }
         problem("1 where the word begins, in a later line", "of:1;wish:x;of:1", -1012);
