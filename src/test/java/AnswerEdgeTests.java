@@ -953,6 +953,9 @@ public final class AnswerEdgeTests {
         d.due("37: two digits above, one below", d.spelt(0), "25/3,17/2,0");
         tell("of:3;keep:3x<10;keep:3x>10;keep:2y>11;keep:2y<11");
         d.due("37: the least of two digits", d.spelt(0), "10/3,11/2,0");
+        tell("of:3;keep:3x+3y+3z<26;keep:3x-3y+2z>19;keep:3x+y-3z>23");
+        d.due("37: three digits", d.spelt(1), "755/102,39/34,2/17");
+        none("37: behind its end", -2, v -> d.x().spelt(1, v), 18, 19, 64, 65, MANY);
         tell("of:3;keep:3x+3y-z<25;keep:3x-2y+3z>11;keep:x+3y+3z>29;keep:-2x+3y+3z<17");
         for (int i = 0; i < d.x().all(0); i++) {
             StringBuilder text = new StringBuilder();

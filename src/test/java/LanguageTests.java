@@ -16,12 +16,14 @@ import java.util.stream.Collectors;
 public final class LanguageTests {
     private static final Desk d = new Desk("LanguageTests");
     private static final Path SOURCE = Path.of("src/main/java/SeveralWishes.java");
+    private static final Path TESTS = Path.of("src/test/java");
     private static final com.sun.management.ThreadMXBean THREADS =
             (com.sun.management.ThreadMXBean) ManagementFactory.getThreadMXBean();
     private static final Path DOCUMENT = Path.of("../shared/DOC.md");
 
     public static void main(String[] args) throws IOException {
         face();
+        everyPromise();
         classes();
         source();
         nothingIsMade();
@@ -58,6 +60,25 @@ public final class LanguageTests {
             }
         }
         d.due("1: constants", open.toString(), "[NONE]");
+    }
+
+    /** A check's words begin with the number of its promise: each promise has some, of its ordinary use and its edges. */
+    private static void everyPromise() throws IOException {
+        StringBuilder edges = new StringBuilder();
+        for (String name : List.of("TextEdgeTests", "AnswerEdgeTests", "LawEdgeTests", "StateEdgeTests")) {
+            edges.append(Files.readString(TESTS.resolve(name + ".java")));
+        }
+        String ordinary = Files.readString(TESTS.resolve("PromiseTests.java"));
+        int promises = 0;
+        for (String line : Files.readAllLines(DOCUMENT)) {
+            if (line.matches("## Promise \\d+:.*")) {
+                promises++;
+                String words = "\"" + line.replaceAll("\\D*(\\d+):.*", "$1") + ": ";
+                d.due("a test of its use: " + line, ordinary.contains(words) ? 1 : 0, 1);
+                d.due("a test of its edges: " + line, edges.indexOf(words) >= 0 ? 1 : 0, 1);
+            }
+        }
+        d.due("promises of the document", promises, 41);
     }
 
     private static void classes() {

@@ -179,6 +179,9 @@ public final class StateEdgeTests {
         d.due("40: empty then, of more than is asked", d.x().count(1), 0);
         d.problem("of:2;keep:3x+y<10;keep:2x-3y<3;keep:3x-y>1");
         d.due("40: of x, not of y", d.check(3, 2, 6, 1, 255), -1);
+        d.problem("of:3;keep:3x+3y+3z<26;keep:3x-3y+2z>19;keep:3x+y-3z>23");
+        d.due("40: of three digits", d.check(3, 102, 2, 3, 6, 3, 255), -1);
+        d.due("40: of three digits", d.check(3, 103, 2, 3, 6, 3, 255), 1);
     }
 
     private static void count() {
