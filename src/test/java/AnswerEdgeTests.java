@@ -73,11 +73,11 @@ public final class AnswerEdgeTests {
     }
 
     /** From least to most all is allowed, what is beyond is refused. */
-    private static void range(String call, int least, int most, long refused, Call call2) {
+    private static void range(String call, int least, int most, long refused, Call ask) {
         for (int value : new int[] {least, most}) {
-            d.due(call + ": " + value + " is refused", call2.ask(value) == refused ? 1 : 0, 0);
+            d.due(call + ": " + value + " is refused", ask.ask(value) == refused ? 1 : 0, 0);
         }
-        none(call, refused, call2, least - 1, most + 1, MANY, FEW);
+        none(call, refused, ask, least - 1, most + 1, MANY, FEW);
     }
 
     private static void none(String call, long refused, Call ask, int... values) {
