@@ -45,6 +45,7 @@ public final class StateEdgeTests {
         refusedUndo();
         questions();
         reasons();
+        inPlaceOfTheOneBefore();
         ownMemory();
         lastCall();
         d.end();
@@ -456,6 +457,79 @@ public final class StateEdgeTests {
         d.due("no such ones ahead of nothing ALLOWED: shadow", d.x().shadow(0, 10, 0, 0, 0), NO_SUCH_VALUE);
         d.due("no such ones ahead of nothing ALLOWED: shadow", d.x().shadow(0, 0, 0, 0, 2), NO_SUCH_VALUE);
         d.due("nothing ALLOWED: shadow", d.x().shadow(0, 9, 9, 9, 0), NO_VALUE);
+    }
+
+    /** Whatever was told and asked before, a PROBLEM is as it is on a new object. */
+    private static void inPlaceOfTheOneBefore() {
+        String corners = ";keep:x+y+z<24;keep:x+y+z>3;keep:x-y-z<6;keep:y-x-z<6";
+        String[] problems = {FULL, "of:3" + corners, "of:3;wish:x;least:x;wish:y" + corners, "of:3;least:x;least:y" + corners,
+            SQUARE, EMPTY, POINT, LINE, "of:1;wish:x;least:x", "of:2;wish:3x-y;wish:3y-x;wish:x+y;box:x<4", "of:2",
+            "of:3;wish:3x+2z;wish:3y+2z;keep:x+y+z<9", "of:2;least:x;wish:y;keep:y-3x<1;keep:y-x<3;keep:2y-x<8"};
+        for (String then : problems) {
+            d.fresh().problem(then);
+            List<Long> due = broadly();
+            for (String before : problems) {
+                d.fresh().problem(before);
+                broadly();
+                d.problem(then);
+                same("4: in place of the one before: " + before + ", then " + then, broadly(), due);
+            }
+        }
+    }
+
+    /** Some two hundred answers of all calls that ask. */
+    private static List<Long> broadly() {
+        List<Long> all = new ArrayList<>();
+        d.law("vi+t*10+n*100+e*1000-a(b<9|c=0);x(i=99)");
+        all.add((long) d.x().chosen(0));
+        all.add((long) d.x().chosen(1));
+        int last = d.x().all(0) - 1;
+        for (int what = 1; what < 12; what++) {
+            all.add((long) d.x().all(what));
+        }
+        for (int i : new int[] {0, 1, last - 1, last}) {
+            for (int what = 0; what < 6; what++) {
+                all.add((long) d.x().cornerIs(i, what));
+                all.add((long) d.x().edge(i, last - what));
+            }
+            all.add((long) d.x().reach(0, i, true));
+            all.add((long) d.x().reach(i, last, false));
+            all.add((long) d.x().far(i, 0));
+            all.add((long) d.x().far(i, 1));
+            all.add((long) d.x().along(i, 0, 5));
+            all.add((long) d.x().walk(i, 1, 2, 3, 0));
+            all.add((long) d.x().walk(i, 1, 2, 3, 1));
+            all.add((long) d.x().ranked(0, i));
+            all.add(d.x().weights(i, 1));
+            all.add(d.x().wishAt(i, 1, 0));
+            all.add(d.x().slack(i, 1, 0));
+            all.add(d.x().price(i, last, 0, 1, 0));
+            all.add((long) d.x().spelt(i, 2));
+        }
+        for (int k = 0; k < 10; k++) {
+            all.add((long) d.x().face(k, 0));
+            all.add((long) d.x().face(k, 2));
+            all.add((long) d.x().needed(k));
+            all.add(d.x().turn(k));
+            all.add(d.x().middle(k > 5, k % 6));
+            all.add(d.x().better(1, 0, 0, k % 6));
+        }
+        for (int order : new int[] {0, 1, 10, 12, 120, 210}) {
+            all.add((long) d.x().behind(order));
+        }
+        for (int what = 0; what < 3; what++) {
+            all.add(d.x().best(3, 2, 1, what));
+            all.add((long) d.x().whole(3, 2, 1, what));
+            all.add(d.x().regret(what));
+            all.add(d.x().ideal(0, what));
+            all.add(d.x().ideal(1, what));
+            all.add(d.x().shadow(0, 1, 1, 1, what));
+            all.add(d.x().heldAt(0, 1, 2, what));
+            all.add(d.x().area(what));
+            all.add(d.x().gain(1, 1, 0, what));
+            all.add((long) d.x().plan(what, 0, 0));
+        }
+        return all;
     }
 
     private static void ownMemory() {
