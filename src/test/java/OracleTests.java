@@ -29,34 +29,42 @@ public final class OracleTests {
         d.end();
     }
 
+    /** Every second problem is a narrow one: small numbers, where PLANES meet in one place and WISHES are alike. */
     private static Oracle random(Random r) {
+        boolean isNarrow = r.nextBoolean();
         Oracle o = new Oracle();
         o.n = 1 + r.nextInt(7) * 3 / 7;
         int wishes = r.nextInt(4);
         for (int w = 0; w < wishes; w++) {
-            o.wishes.add(sum(r, o.n));
+            boolean again = isNarrow && w > 0 && r.nextInt(5) == 0;
+            o.wishes.add(again ? times(o.wishes.get(w - 1), r.nextBoolean() ? 1 : -1) : sum(r, o.n, isNarrow));
         }
         int keeps = r.nextInt(5);
         for (int k = 0; k < keeps; k++) {
-            boolean again = k > 0 && r.nextInt(5) == 0;
-            o.keeps.add(again ? o.keeps.get(k - 1) : sum(r, o.n));
+            boolean again = k > 0 && r.nextInt(isNarrow ? 3 : 5) == 0;
+            o.keeps.add(again ? o.keeps.get(k - 1) : sum(r, o.n, isNarrow));
             boolean less = r.nextInt(4) > 0;
             o.less.add(less);
-            int bound = less ? r.nextInt(30) : r.nextInt(8);
+            int bound = r.nextInt(isNarrow ? 5 : less ? 30 : 8);
             o.numbers.add(again && r.nextBoolean() ? o.numbers.get(k - 1) : r.nextInt(20) == 0 ? r.nextInt(100) : bound);
         }
         for (int q = 0; q < o.n; q++) {
-            if (r.nextInt(3) == 0) {
-                o.box[q] = 1 + r.nextInt(9);
+            if (r.nextInt(3) == 0 || isNarrow) {
+                o.box[q] = 1 + r.nextInt(isNarrow ? 3 : 9);
             }
         }
         return o;
     }
 
-    private static int[] sum(Random r, int n) {
+    private static int[] times(int[] takes, int many) {
+        return new int[] {many * takes[0], many * takes[1], many * takes[2]};
+    }
+
+    private static int[] sum(Random r, int n, boolean isNarrow) {
         int[] takes = new int[3];
         for (int q = 0; q < n; q++) {
-            takes[q] = r.nextInt(4) == 0 ? 0 : r.nextInt(5) == 0 ? -1 - r.nextInt(3) : 1 + r.nextInt(3);
+            int some = r.nextInt(5) == 0 ? -1 - r.nextInt(3) : 1 + r.nextInt(3);
+            takes[q] = isNarrow ? r.nextInt(3) - 1 : r.nextInt(4) == 0 ? 0 : some;
         }
         return takes;
     }
